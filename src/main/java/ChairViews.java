@@ -1084,7 +1084,7 @@ public final class ChairViews {
         static final int[] FIRST_ZEAL = {NAME_0, 10, -'*', NAME_1, -'-'};
 
         final Row steps = new Row(MOST_BYTES, INT_BITS);
-        private final Row open = new Row(MOST_BYTES, INT_BITS);
+        private final int[] pile = new int[MOST_BYTES];
         private final int least;
         private final int most;
 
@@ -1098,28 +1098,33 @@ public final class ChairViews {
 
         /** Held within what the USE allows. */
         int gives(int a, int b, int c) {
-            open.clear();
+            int piled = 0;
             for (int i = 0; i < steps.length; i++) {
                 int step = steps.get(i);
-                switch (step) {
-                    case NAME_0: open.add(a); break;
-                    case NAME_1: open.add(b); break;
-                    case NAME_2: open.add(c); break;
-                    case -'!': open.add(oneIf(open.takeLast() == 0)); break;
-                    default: workOut(step); break;
+                if (step >= NAME_2) {
+                    if (piled < MOST_BYTES) {
+                        pile[piled] = valueOf(step, a, b, c);
+                        piled++;
+                    }
+                } else if (step == -'!') {
+                    if (piled > 0) {
+                        pile[piled - 1] = oneIf(pile[piled - 1] == 0);
+                    }
+                } else if (piled > 1) {
+                    piled--;
+                    pile[piled - 1] = join(-step, pile[piled - 1], pile[piled]);
                 }
             }
-            return Math.max(least, Math.min(most, open.get(0)));
+            return Math.max(least, Math.min(most, pile[0]));
         }
 
-        private void workOut(int step) {
-            if (step >= 0) {
-                open.add(step);
-                return;
+        private static int valueOf(int step, int a, int b, int c) {
+            switch (step) {
+                case NAME_0: return a;
+                case NAME_1: return b;
+                case NAME_2: return c;
+                default: return step;
             }
-            int right = open.takeLast();
-            int left = open.takeLast();
-            open.add(join(-step, left, right));
         }
 
         private static int join(int sign, int left, int right) {
@@ -1295,14 +1300,6 @@ public final class ChairViews {
                 }
             }
             add(v);
-        }
-
-        int takeLast() {
-            if (length <= 0) {
-                return 0;
-            }
-            length--;
-            return numbers[length];
         }
 
         void clear() {

@@ -136,8 +136,11 @@ final class Model {
                 int best = -1;
                 int bestZeal = Integer.MIN_VALUE;
                 for (int c = 0; c < seats.size(); c++) {
+                    if (taken.contains(c)) {
+                        continue;
+                    }
                     int zeal = give(texts, 1, asChair(c, p.hobby) == 1 ? 1 : 0, c, p.speed);
-                    if (!taken.contains(c) && zeal > bestZeal) {
+                    if (zeal > bestZeal) {
                         best = c;
                         bestZeal = zeal;
                     }
@@ -559,8 +562,9 @@ final class Model {
         if (out(bill, 0, 7)) {
             return error(1);
         }
-        for (int n = 0; n <= 60; n++) {
-            if ((world.behind(n).laws & 1 << bill) != 0) {
+        World w = world;
+        for (int n = 0; n <= 60; n++, w = w.behind(1)) {
+            if ((w.laws & 1 << bill) != 0) {
                 return n;
             }
         }
@@ -876,8 +880,10 @@ final class Model {
     public int check() {
         List<Integer> told = world.waiting;
         world.waiting = new ArrayList<>();
+        World w = world;
         for (int i = 0; i < told.size(); i++) {
-            if (world.behind(i + 1).laws != told.get(i)) {
+            w = w.behind(1);
+            if (w.laws != told.get(i)) {
                 return 1 + i;
             }
         }

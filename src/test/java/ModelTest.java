@@ -8,7 +8,7 @@ import java.util.Random;
 
 /** Random runs of calls, each answered by the class and by the Model alike (all promises). */
 public final class ModelTest {
-    private static final int RUNS = 1500;
+    private static final int RUNS = 600;
     private static final int CALLS = 512;
 
     /** For each call its arguments' ranges: pairs of the least and the greatest that are right. */
