@@ -837,8 +837,8 @@ public final class ChairViews {
             return sum;
         }
 
+        /** All stand at first: no CHAIR is taken, whoever was AT it. */
         void runAll() {
-            Arrays.fill(at, STANDING);
             int ran = 0;
             int taken = 0;
             for (int i = 0; i < members; i++) {

@@ -50,6 +50,7 @@ public final class DrawsSheetsTest {
         voiceOf(63, 0, 7, 9, 10);
         voiceOf(63, 1, 7, 18, 11, 10);
         voiceOf(63, 2, 7, -4 ^ 2, 70, 40, 12);
+        voiceOf(63, 2, 5, -2 ^ 2, 70, 40, 12);
         voiceOf(63, 3, 7, 18 - (18 ^ -4 ^ 2), 71, 11, 10, 13, 11, 10, 70, 40, 12);
     }
 

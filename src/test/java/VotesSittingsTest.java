@@ -23,6 +23,9 @@ public final class VotesSittingsTest {
         DUE.is("14: nobody for", x.vote(0, 0), 0);
         DUE.is("14: 0 is not more than 0", x.vote(0, 2), 0);
         DUE.is("14: the last BILL", x.vote(7, 2), 0);
+        ChairViews one = Due.seated(Due.withChairs(0, 1, 0, 1, 0, 0), 0, 1, 2);
+        DUE.is("14: 1 more is more", one.vote(0, 2), 1);
+        DUE.is("14: 1 less isn't", one.vote(1, 2), 0);
         DUE.refuses("14: vote(-1, 0)", Due::furnished, y -> y.vote(-1, 0), BEYOND);
         DUE.refuses("14: vote(8, 0)", Due::furnished, y -> y.vote(8, 0), BEYOND);
         DUE.refuses("14: vote(0, -1)", Due::furnished, y -> y.vote(0, -1), BEYOND);
@@ -110,6 +113,10 @@ public final class VotesSittingsTest {
         x.run();
         DUE.are("16: a ZEAL that is held", Due.at(x), 0, 1, -1, 2);
         DUE.is("16: nothing else goes on", x.count(2) * 1000 + x.count(3), 0);
+        ChairViews whether = Due.seated(Due.withChairs(0, 1, 0, 0, 0, 0), -1, -1);
+        Due.textOf(whether, 1, "(h=1)*30+(h=0)*n*20");
+        whether.run();
+        DUE.are("16: h is 1 or 0", Due.at(whether), 2, 0);
         DUE.is("16: run() of no MEMBERS", Due.withChairs(0, 0).run(), 0);
         DUE.is("16: run() of no CHAIRS", Due.seated(new ChairViews(), -1, -1).run(), 0);
     }
@@ -136,6 +143,19 @@ public final class VotesSittingsTest {
         DUE.refuses("17: sittings(0)", Due::furnished, y -> y.sittings(0), BEYOND);
         DUE.refuses("17: sittings(61)", Due::furnished, y -> y.sittings(61), BEYOND);
         DUE.refuses("17: sittings(-1)", Due::furnished, y -> y.sittings(-1), BEYOND);
+    }
+
+    private static void sittingsOfAllBills() {
+        ChairViews x = Due.seated(Due.withChairs(60, 0), 0);
+        DUE.is("17: all BILLS, and no more", x.sittings(1), 255);
+        x.stuff(0, 1, 0b1000_0111);
+        DUE.is("17: but those of a CUSHION", x.sittings(1), 0b0111_1000);
+        DUE.are("17: BILL 0 is the least", Due.cushions(x), 0b1000_0110);
+        DUE.is("17: then the next", x.sittings(1), 0b0111_1001);
+        DUE.are("17: CUSHION", Due.cushions(x), 0b1000_0100);
+        x.sittings(2);
+        DUE.are("17: none is left", Due.cushions(x), 0);
+        DUE.is("17: all BILLS", x.sittings(1), 255);
     }
 
     /** WEIGHT by SITTING: what is voted is weighed by the number ahead of its being 1 more. */
@@ -210,6 +230,10 @@ public final class VotesSittingsTest {
             }
             DUE.is("18: SPEED of " + i, speeds[i], last % 100);
         }
+        ChairViews single = Due.seated(Due.withChairs(0, 1), -1);
+        DUE.is("18: one MEMBER", single.loose(1), 1);
+        DUE.is("18: SPEED of the one", single.ofMember(0, 0), second % 100);
+        DUE.is("18: z", single.count(9), drawn(1, 2));
         ChairViews empty = Due.withChairs(0, 1);
         DUE.is("18: without MEMBERS", empty.loose(3), 0);
         DUE.is("18: no draws", empty.count(9), 1);
@@ -224,6 +248,7 @@ public final class VotesSittingsTest {
         saysMore();
         run();
         sittings();
+        sittingsOfAllBills();
         sittingsByNumber();
         upToTheLast();
         loose();

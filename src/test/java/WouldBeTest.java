@@ -162,6 +162,10 @@ public final class WouldBeTest {
         DUE.is("24: BILLS 0, 1, 2", sheeted(32, 2, 2, 0).fits(2, 1), 6);
         DUE.is("24: 8 BILLS", sheeted(8, 1, 1, 1, -1, -1, -1, -1, -1).fits(2, 1), 12);
         DUE.is("24: none", sheeted(8, 5).fits(2, 0), 0);
+        ChairViews nobody = Due.withChairs(0, 1, 0, 3);
+        nobody.sheet(0, 8, 8);
+        DUE.is("24: nobody sits: the empty set", nobody.fits(0, 0), 1);
+        DUE.is("24: which is the least", nobody.fits(0, 1), 0);
         DUE.is("24: unlike only beyond 8 bits", sheeted(16, 257).fits(2, 0), 0);
         DUE.refuses("24: there is none", () -> sheeted(8, 5), x -> x.fits(2, 1), NONE);
         DUE.refuses("24: 9 numbers", Due::furnished, x -> x.fits(1, 0), NONE);
