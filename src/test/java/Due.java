@@ -1,4 +1,5 @@
 import java.util.function.Supplier;
+import java.util.function.ToIntBiFunction;
 import java.util.function.ToIntFunction;
 
 /** Counts the answers that are not as due, and ends the test with exit code 1 if there was one. */
@@ -10,14 +11,32 @@ final class Due {
     static final int FULL = LOW - 4;
     static final int KIND = LOW - 5;
 
+    private String sentence = "";
     private int asked;
     private int wrong;
+
+    /** What comes from here on holds a sentence of the document, in whose words a wrong answer is told. */
+    void under(String words) {
+        sentence = words + ": ";
+    }
+
+    int asked() {
+        return asked;
+    }
 
     void is(String call, long got, long want) {
         asked++;
         if (got != want) {
             wrong++;
-            System.out.println(call + " answered " + got + ", due is " + want);
+            System.out.println(sentence + call + " answered " + got + ", due is " + want);
+        }
+    }
+
+    void same(String call, String got, String want) {
+        asked++;
+        if (!got.equals(want)) {
+            wrong++;
+            System.out.println(sentence + call + "\n  " + got + "\n  due is\n  " + want);
         }
     }
 
@@ -31,16 +50,75 @@ final class Due {
     /** That a call answers an ERROR, which told() tells of, and changes nothing else. */
     void refuses(String call, Supplier<ChairViews> made, ToIntFunction<ChairViews> act, int error) {
         ChairViews x = made.get();
-        String before = seen(x);
         int[] told = told(x);
         is(call, act.applyAsInt(x), error);
         told[LOW - error - 1]++;
         are(call + ", what told() tells", told(x), told);
-        asked++;
-        if (!before.equals(seen(x))) {
-            wrong++;
-            System.out.println(call + " changed\n  " + before + " to\n  " + seen(x));
+        changesNothing(call, made, act);
+    }
+
+    /** That a call answers what is due, which is no ERROR whatever number it is. */
+    void answers(String call, Supplier<ChairViews> made, ToIntFunction<ChairViews> act, int due) {
+        ChairViews x = made.get();
+        int[] told = told(x);
+        is(call, act.applyAsInt(x), due);
+        are(call + ", what told() tells", told(x), told);
+    }
+
+    /** That a call answers what is due, which is no ERROR, and changes nothing. */
+    void onlyThinks(String call, Supplier<ChairViews> made, ToIntFunction<ChairViews> act, int due) {
+        answers(call, made, act, due);
+        changesNothing(call, made, act);
+    }
+
+    /** By twins: one is asked, one isn't, and neither can be told from the other behind that. */
+    private void changesNothing(String call, Supplier<ChairViews> made, ToIntFunction<ChairViews> act) {
+        for (Probe probe : Probe.values()) {
+            ChairViews asked = made.get();
+            act.applyAsInt(asked);
+            same(call + " changed " + probe, probe.of(asked), probe.of(made.get()));
         }
+    }
+
+    /**
+     * That a number of a call may be what is from least to most, and that what is around is
+     * BEYOND. What is allowed may still be refused by another ERROR.
+     */
+    void within(String call, int least, int most, Supplier<ChairViews> made,
+            ToIntBiFunction<ChairViews, Integer> act) {
+        for (int v : new int[] {least, most}) {
+            is(call + " of " + v + " is BEYOND", act.applyAsInt(made.get(), v) == BEYOND ? 1 : 0, 0);
+        }
+        beyond(call, made, act, least - 1, most + 1, Integer.MIN_VALUE, Integer.MAX_VALUE);
+    }
+
+    void beyond(String call, Supplier<ChairViews> made, ToIntBiFunction<ChairViews, Integer> act, int... numbers) {
+        for (int v : numbers) {
+            refuses(call + " of " + v, made, x -> act.applyAsInt(x, v), BEYOND);
+        }
+    }
+
+    /** That a number of a call is that of a CHAIR: of none, of 4, of 6. */
+    void chairs(String call, ToIntBiFunction<ChairViews, Integer> act) {
+        beyond(call + " without CHAIRS", ChairViews::new, act, -1, 0);
+        within(call + " with 4 CHAIRS", 0, 3, Due::furnished, act);
+        within(call + " with 6 CHAIRS", 0, 5, Due::full, act);
+    }
+
+    /** That a number of a call is that of a MEMBER: of none, of 3, of 6. */
+    void members(String call, ToIntBiFunction<ChairViews, Integer> act) {
+        beyond(call + " without MEMBERS", ChairViews::new, act, -1, 0);
+        within(call + " with 3 MEMBERS", 0, 2, Due::furnished, act);
+        within(call + " with 6 MEMBERS", 0, 5, Due::full, act);
+    }
+
+    void bills(String call, ToIntBiFunction<ChairViews, Integer> act) {
+        within(call, 0, 7, Due::furnished, act);
+    }
+
+    void sheets(String call, ToIntBiFunction<ChairViews, Integer> act) {
+        within(call, 0, 3, Due::furnished, act);
+        within(call, 0, 3, Due::full, act);
     }
 
     void end() {
@@ -130,16 +208,12 @@ final class Due {
     }
 
     /**
-     * A house in which there is something of everything: 4 of at most 6 CHAIRS, 3 MEMBERS of
-     * whom one stands, a TEXT, bytes on THE TAPE, LAWS, numbers that wait, SHEET 0 of 8 bits,
-     * SHEET 1 of 16, a TRACE.
+     * A house in which there is something of everything but an IMAGE: 4 of at most 6 CHAIRS, 3
+     * MEMBERS of whom one stands, a TEXT, bytes on THE TAPE, LAWS, numbers that wait, SHEET 0 of
+     * 8 bits, SHEET 1 of 16, a TRACE.
      */
     static ChairViews furnished() {
-        ChairViews x = new ChairViews();
-        x.chair(4, 1);
-        x.chair(13, 255);
-        x.chair(56, 6);
-        x.chair(62, 15);
+        ChairViews x = withChairs(4, 1, 13, 255, 56, 6, 62, 15);
         x.member(0);
         x.member(1);
         x.member(7);
@@ -149,11 +223,51 @@ final class Due {
         x.sit(2, -1);
         x.stuff(0, 1, 6);
         x.voice(3, 3, 1);
-        x.tell(7);
+        x.tell(x.then(1, -1));
+        x.tell(x.then(2, -1));
         x.tell(9);
         x.sheet(0, 8, 3);
+        putAll(x, 0, 5, 99, 0);
         x.sheet(1, 16, 9);
+        putAll(x, 1, 1, 2, 3, 4, 5, 6, 7, 8, 9);
         feed(x, "h+");
+        return x;
+    }
+
+    /**
+     * A house with the most of everything but SITTING: 6 CHAIRS, 6 MEMBERS who all sit, 50 bytes,
+     * 20 numbers that wait, 4 SHEETS of 40 numbers, and an IMAGE of a time when it had less.
+     */
+    static ChairViews full() {
+        ChairViews x = withChairs(4, 1, 13, 255, 56, 6, 62, 7, 29, 128);
+        seated(x, 3, -1, 1, 4, 0);
+        textOf(x, 1, "h*9+n");
+        x.image();
+        x.chair(30, 112);
+        x.sit(x.member(3), 5);
+        x.sit(1, 2);
+        x.stuff(0, 1, 6);
+        textOf(x, 0, "k+1");
+        x.voice(3, 3, 1);
+        for (int sheet = 0; sheet < 4; sheet++) {
+            x.sheet(sheet, 8 << sheet % 3, 40);
+            putAll(x, sheet, 8, 3 + sheet);
+            x.put(sheet, 39, 7);
+        }
+        for (int i = 1; i <= 19; i++) {
+            x.tell(x.then(i, -1));
+        }
+        x.tell(999);
+        feed(x, "k+k+k+k+k+k+k+k+k+k+k+k+k+k+k+k+k+k+k+k+k+k+k+k+11");
+        return x;
+    }
+
+    /** A house for BILL 0 alone that has had so many SITTINGS. */
+    static ChairViews late(int sittings) {
+        ChairViews x = seated(withChairs(0, 1, 0, 6), 0);
+        for (int left = sittings; left > 0; left -= 60) {
+            x.sittings(Math.min(60, left));
+        }
         return x;
     }
 
