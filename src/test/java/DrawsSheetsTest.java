@@ -252,11 +252,11 @@ public final class DrawsSheetsTest {
         ChairViews x = Due.furnished();
         String before = Due.seen(x);
         DUE.is("36: image()", x.image(), 1);
-        changeAll(x);
+        Due.changeAll(x);
         DUE.is("37: restore()", x.restore(), 3);
         x.voice(3, 3, 1);
         DUE.is("37: all is as it was", before.equals(Due.seen(x)) ? 1 : 0, 1);
-        changeAll(x);
+        Due.changeAll(x);
         DUE.is("37: restore() again", x.restore(), 3);
         x.voice(3, 3, 1);
         DUE.is("37: the IMAGE stays", before.equals(Due.seen(x)) ? 1 : 0, 1);
@@ -266,25 +266,6 @@ public final class DrawsSheetsTest {
         DUE.is("37: restore() of the new one", x.restore(), 4);
         DUE.is("36: how often isn't kept", x.image(), 3);
         DUE.refuses("37: there is none", Due::furnished, y -> y.restore(), NONE);
-    }
-
-    private static void changeAll(ChairViews x) {
-        x.chair(0, 0);
-        x.member(5);
-        x.become(0, 33);
-        x.stuff(1, 0, 4);
-        x.stuff(0, 1, 255);
-        x.change(0, 0, 98);
-        x.change(0, 1, 6);
-        x.sittings(5);
-        x.loose(1);
-        x.text(0);
-        Due.textOf(x, 0, "9");
-        Due.textOf(x, 1, "v-7*n");
-        x.tell(3);
-        x.check();
-        x.sit(0, -1);
-        Due.feed(x, "((((");
     }
 
     private static void imagesOfTapeAndWaiting() {

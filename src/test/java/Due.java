@@ -262,6 +262,26 @@ final class Due {
         return x;
     }
 
+    /** All that an IMAGE keeps becomes another. */
+    static void changeAll(ChairViews x) {
+        x.chair(0, 0);
+        x.member(5);
+        x.become(0, 33);
+        x.stuff(1, 0, 4);
+        x.stuff(0, 1, 255);
+        x.change(0, 0, 98);
+        x.change(0, 1, 6);
+        x.sittings(5);
+        x.loose(1);
+        x.sit(0, -1);
+        x.text(0);
+        textOf(x, 0, "9");
+        textOf(x, 1, "v-7*n");
+        feed(x, "((((");
+        x.check();
+        x.tell(3);
+    }
+
     /** A house for BILL 0 alone that has had so many SITTINGS. */
     static ChairViews late(int sittings) {
         ChairViews x = seated(withChairs(0, 1, 0, 6), 0);

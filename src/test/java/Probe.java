@@ -27,7 +27,7 @@ enum Probe {
         @Override
         String of(ChairViews x) {
             StringBuilder all = new StringBuilder();
-            while (x.count(1) < 6) {
+            for (int member = x.count(1); member < 6; member++) {
                 x.member(0);
             }
             for (int sheet = 0; sheet < 4; sheet++) {

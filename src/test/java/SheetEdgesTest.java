@@ -308,6 +308,13 @@ public final class SheetEdgesTest {
         }
     }
 
+    private static ChairViews unlikeLengths() {
+        ChairViews x = sheeted(8, 1, 2, 3);
+        x.sheet(1, 8, 2);
+        Due.putAll(x, 1, 4, 5);
+        return x;
+    }
+
     private static void moveBeyond() {
         DUE.within("n, of 40", 0, 40, Due::full, (x, v) -> x.move(0, 0, 3, 0, v));
         DUE.within("i, of 40", 0, 39, Due::full, (x, v) -> x.move(0, v, 3, 0, 1));
@@ -318,6 +325,12 @@ public final class SheetEdgesTest {
         DUE.within("j for 30", 0, 10, Due::full, (x, v) -> x.move(0, 0, 3, v, 30));
         DUE.within("n, within one of 3", 0, 3, Due::furnished, (x, v) -> x.move(0, 0, 0, 0, v));
         DUE.within("n, from its last on", 0, 1, Due::furnished, (x, v) -> x.move(0, 2, 0, 0, v));
+        DUE.within("n, of 3, to one of 2", 0, 2, SheetEdgesTest::unlikeLengths, (x, v) -> x.move(0, 0, 1, 0, v));
+        DUE.within("n, of 2, to one of 3", 0, 2, SheetEdgesTest::unlikeLengths, (x, v) -> x.move(1, 0, 0, 0, v));
+        DUE.within("i, of 3", 0, 2, SheetEdgesTest::unlikeLengths, (x, v) -> x.move(0, v, 1, 0, 1));
+        DUE.within("j, of 2", 0, 1, SheetEdgesTest::unlikeLengths, (x, v) -> x.move(0, 0, 1, v, 1));
+        DUE.within("i, of 2", 0, 1, SheetEdgesTest::unlikeLengths, (x, v) -> x.move(1, v, 0, 0, 1));
+        DUE.within("j, of 3", 0, 2, SheetEdgesTest::unlikeLengths, (x, v) -> x.move(1, 0, 0, v, 1));
         DUE.refuses("i and n beyond an int", Due::full, x -> x.move(0, MAX, 3, 0, MAX), BEYOND);
         DUE.refuses("j and n beyond an int", Due::full, x -> x.move(0, 0, 3, MAX, MAX), BEYOND);
         DUE.refuses("i below 0, n with it right", Due::full, x -> x.move(0, -5, 3, 0, 10), BEYOND);
@@ -339,6 +352,17 @@ public final class SheetEdgesTest {
         }
     }
 
+    /** MEMBERS, who stand, and CHAIRS, with a SHEET 0. */
+    private static ChairViews unlikeHouse(int members, int chairs, int... numbers) {
+        ChairViews x = Due.withChairs(new int[2 * chairs]);
+        for (int i = 0; i < members; i++) {
+            x.member(0);
+        }
+        x.sheet(0, 8, numbers.length);
+        Due.putAll(x, 0, numbers);
+        return x;
+    }
+
     private static void speedsUpTo() {
         for (int v : new int[] {100, -1, MAX, MIN, 1000}) {
             ChairViews x = sheeted(32, 5, 6, v, 8);
@@ -352,6 +376,8 @@ public final class SheetEdgesTest {
         DUE.is("7 for 6", sheeted(8, 1, 2, 3, 4, 5, 6, 7).speeds(0), 6);
         DUE.is("the 7th isn't 0 to 99", sheeted(8, 1, 2, 3, 4, 5, 6, 100).speeds(0), 6);
         DUE.is("40 for 6", Due.full().speeds(0), 6);
+        DUE.is("3 for 2, CHAIRS being more", unlikeHouse(2, 6, 5, 6, 7).speeds(0), 2);
+        DUE.is("3 for 4, CHAIRS being fewer", unlikeHouse(4, 2, 5, 6, 7).speeds(0), 3);
         ChairViews nobody = new ChairViews();
         nobody.sheet(0, 8, 3);
         DUE.is("3 for nobody", nobody.speeds(0), 0);
@@ -390,6 +416,8 @@ public final class SheetEdgesTest {
         DUE.is("a wrong one ahead of one too many", judged(2, -1, 5, -1).judge(0), 2);
         DUE.is("a wrong one ahead of one that lacks", judged(1, -1).judge(0), 0);
         DUE.is("40 for 6", Due.full().judge(0), 0);
+        DUE.is("3 for 2, CHAIRS being 3", unlikeHouse(2, 3, -1, -1, -1).judge(0), 2);
+        DUE.is("3 for 4, CHAIRS being 3", unlikeHouse(4, 3, -1, -1, -1).judge(0), 3);
         ChairViews nobody = new ChairViews();
         nobody.sheet(0, 8, 1);
         DUE.is("one for nobody", nobody.judge(0), 0);
@@ -401,6 +429,8 @@ public final class SheetEdgesTest {
         ChairViews nobody = new ChairViews();
         nobody.sheet(0, 8, 0);
         DUE.is("none for nobody", nobody.judge(0), -1);
+        DUE.is("2 for 2, CHAIRS being 6", unlikeHouse(2, 6, -1, -1).judge(0), -1);
+        DUE.is("4 for 4, CHAIRS being none", unlikeHouse(4, 0, -1, -1, -1, -1).judge(0), -1);
         ChairViews six = sheeted(32, 5, 4, 3, 2, 1, 0);
         for (int member = 0; member < 6; member++) {
             six.sit(member, 5 - member);

@@ -363,12 +363,16 @@ public final class TextEdgesTest {
         DUE.is("SITTING 9999", late.ofChair(0, 5), 99);
     }
 
-    private static void weightHeld() {
-        ChairViews x = withText(0, "k");
-        int[][] held = {{-1, 0}, {0, 0}, {1, 1}, {98, 98}, {99, 99}, {100, 99}, {MIN, 0}, {MAX, 99}};
-        for (int[] pair : held) {
-            DUE.is("law(0, " + pair[0] + ", ..)", x.law(0, pair[0], 0, 0), pair[1]);
+    /** What a TEXT of its first NAME alone gives, for pairs of what that is and what is due. */
+    private static void held(ChairViews x, int use, int[][] pairs) {
+        for (int[] pair : pairs) {
+            DUE.is("law(" + use + ", " + pair[0] + ", ..)", x.law(use, pair[0], 0, 0), pair[1]);
         }
+    }
+
+    private static void weightHeld() {
+        held(withText(0, "k"), 0, new int[][] {
+            {-1, 0}, {0, 0}, {1, 1}, {98, 98}, {99, 99}, {100, 99}, {MIN, 0}, {MAX, 99}});
         ChairViews heavy = Due.seated(Due.withChairs(0, 255, 59, 255, 60, 255, 0, 0), 0, 1, 2, 3);
         Due.textOf(heavy, 0, "k*20-1");
         DUE.is("a CHAIR of 159", heavy.ofChair(0, 5), 99);
@@ -421,11 +425,8 @@ public final class TextEdgesTest {
     }
 
     private static void zealHeld() {
-        ChairViews x = withText(1, "h");
-        int[][] held = {{-100, -99}, {-99, -99}, {-98, -98}, {98, 98}, {99, 99}, {100, 99}, {MIN, -99}, {MAX, 99}};
-        for (int[] pair : held) {
-            DUE.is("law(1, " + pair[0] + ", ..)", x.law(1, pair[0], 0, 0), pair[1]);
-        }
+        held(withText(1, "h"), 1, new int[][] {
+            {-100, -99}, {-99, -99}, {-98, -98}, {98, 98}, {99, 99}, {100, 99}, {MIN, -99}, {MAX, 99}});
         ChairViews run = Due.seated(Due.withChairs(0, 0, 0, 0, 0, 0), -1);
         DUE.are("98, 99, 100", atBehindRun(run, "98+n"), 1);
         DUE.are("99, 100, 101", atBehindRun(run, "99+n"), 0);

@@ -167,6 +167,11 @@ public final class ThoughtEdgesTest {
         heavy.stuff(2, 0, 0b1111_1110);
         Due.textOf(heavy, 0, "k+1");
         DUE.is("one alone, who is last", heavy.turning(0), 0b100);
+        ChairViews fewest = weights(2, 2, 4, 1);
+        fewest.stuff(3, 1, 128);
+        DUE.is("one of 4, rather than two of 2, whose set is less", fewest.turning(7), 0b0100);
+        fewest.stuff(2, 1, 128);
+        DUE.is("the way back", fewest.turning(7), 0b0100);
     }
 
     private static void leastTurns() {
@@ -304,6 +309,10 @@ public final class ThoughtEdgesTest {
         last.become(4, 40);
         DUE.is("BILL 7, of 3 numbers", last.parts(0), 7);
         DUE.is("-1, 0, 1", last.parts(1), 3);
+        ChairViews wet = Due.seated(Due.withChairs(18, 0, 0, 0), 0);
+        DUE.is("8 is no BILL that a WET one could say nothing on", wet.parts(1), 1);
+        wet.become(0, 17);
+        DUE.is("7 is", wet.parts(0), 7);
         ChairViews most = weights(32, 16, 8, 4, 2);
         most.chair(0, 31);
         most.sit(3, -1);

@@ -162,29 +162,10 @@ public final class ToldEdgesTest {
 
     // ---- promises 36 to 39
 
-    /** All that an IMAGE has becomes another, and all that it hasn't, too. */
-    private static void changeAll(ChairViews x) {
-        x.chair(0, 0);
-        x.member(5);
-        x.become(0, 33);
-        x.stuff(1, 0, 4);
-        x.stuff(0, 1, 255);
-        x.change(0, 0, 98);
-        x.change(0, 1, 6);
-        x.loose(3);
-        x.sit(0, -1);
-        x.text(1);
-        Due.textOf(x, 0, "9");
-        Due.textOf(x, 1, "v-7*n");
-        Due.feed(x, "((((");
-        x.check();
-        x.tell(3);
-    }
-
     private static ChairViews imaged() {
         ChairViews x = Due.furnished();
         x.image();
-        changeAll(x);
+        Due.changeAll(x);
         x.voice(3, 3, 1);
         return x;
     }
@@ -230,7 +211,7 @@ public final class ToldEdgesTest {
         ChairViews x = imaged();
         DUE.is("SITTING", x.restore(), 3);
         DUE.is("SITTING", x.count(2), 3);
-        changeAll(x);
+        Due.changeAll(x);
         x.voice(3, 3, 1);
         DUE.is("it stays", x.restore(), 3);
         DUE.same("it stays as it was", Due.seen(x), Due.seen(Due.furnished()));

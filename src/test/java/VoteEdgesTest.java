@@ -1,7 +1,8 @@
+import java.util.function.ToIntBiFunction;
+
 /** The sentences of Terms 1 on what chairs say and weigh, votes, runs, sittings; promises 14 to 18. */
 public final class VoteEdgesTest {
     private static final Due DUE = new Due();
-    private static final int BEYOND = Due.BEYOND;
 
     static Sentences sentences() {
         return new Sentences().in("Terms 1")
@@ -252,6 +253,7 @@ public final class VoteEdgesTest {
             DUE.is("BILL " + bill, Due.seated(Due.withChairs(0, 1 << bill), 0).sittings(1), 1 << bill);
         }
         DUE.is("all", Due.seated(Due.withChairs(0, 255), 0).sittings(1), 255);
+        DUE.is("all, and no more, by a CROWN", Due.seated(Due.withChairs(60, 0), 0).sittings(1), 255);
     }
 
     // ---- runs
@@ -358,6 +360,11 @@ public final class VoteEdgesTest {
         DUE.are("up to the last", Due.cushions(x), 0, 0, 0b1000_0000, 0b10);
         x.sittings(2);
         DUE.are("none is left", Due.cushions(x), 0, 0, 0, 0b10);
+        ChairViews last = Due.seated(Due.withChairs(0, 0, 0, 0, 0, 0, 0, 0, 0, 0, 0, 1), -1);
+        last.stuff(0, 1, 0b110);
+        last.stuff(5, 1, 0b110);
+        last.sittings(1);
+        DUE.are("the last of 6, AT which is one of one", Due.cushions(last), 0b110, 0, 0, 0, 0, 0b100);
         ChairViews voted = Due.seated(Due.withChairs(0, 0), 0);
         voted.stuff(0, 1, 1);
         DUE.is("it counts in the VOTE ahead", voted.sittings(1), 1);
@@ -446,65 +453,61 @@ public final class VoteEdgesTest {
         DUE.is("no SITTING", x.count(2), 0);
     }
 
-    private static void sittings() {
-        ChairViews one = Due.seated(Due.withChairs(0, 5), 0);
-        DUE.is("sittings(1)", one.sittings(1), 5);
-        DUE.is("SITTING", one.count(2), 1);
-        DUE.is("sittings(60)", one.sittings(60), 5);
-        DUE.is("SITTING", one.count(2), 61);
-        DUE.is("LAWS", one.count(3), 5);
-        DUE.is("z stays", one.count(9), 1);
+    /** That a call holds from 1 up to so many SITTINGS. */
+    private static void holds(ToIntBiFunction<ChairViews, Integer> call, int most) {
+        ChairViews x = Due.seated(Due.withChairs(0, 5), 0);
+        DUE.is("1", call.applyAsInt(x, 1), 5);
+        DUE.is("SITTING", x.count(2), 1);
+        DUE.is("the most", call.applyAsInt(x, most), 5);
+        DUE.is("SITTING", x.count(2), 1 + most);
+        DUE.is("LAWS", x.count(3), 5);
         ChairViews last = Due.seated(Due.withChairs(0, 1), 0);
-        Due.textOf(last, 0, "s=59");
-        DUE.is("the LAWS of the 60th", last.sittings(60), 1);
-        DUE.is("the LAWS of the 61st", last.sittings(1), 0);
+        Due.textOf(last, 0, "s=" + (most - 1));
+        DUE.is("the LAWS of the last", call.applyAsInt(last, most), 1);
+        DUE.is("the LAWS of one more", call.applyAsInt(last, 1), 0);
+    }
+
+    private static void holdsBeyond(ToIntBiFunction<ChairViews, Integer> call, int most) {
+        DUE.within("of a house", 1, most, Due::furnished, call);
+        DUE.beyond("ahead of STATE", () -> Due.late(9999), call,
+            0, most + 1, -1, Integer.MIN_VALUE, Integer.MAX_VALUE);
+    }
+
+    private static void holdsUpTo9999(ToIntBiFunction<ChairViews, Integer> call, int most) {
+        for (int n : new int[] {1, 2, most - 1, most}) {
+            DUE.refuses(n + ", one too many", () -> Due.late(10000 - n), x -> call.applyAsInt(x, n), Due.STATE);
+            ChairViews x = Due.late(9999 - n);
+            DUE.is(n + ", up to the last", call.applyAsInt(x, n), 1);
+            DUE.is("SITTING", x.count(2), 9999);
+        }
+    }
+
+    private static void sittings() {
+        holds(ChairViews::sittings, 60);
+        ChairViews x = Due.seated(Due.withChairs(0, 5), 0);
+        x.sittings(60);
+        DUE.is("no draws", x.count(9), 1);
+        DUE.is("no draws", x.ofMember(0, 0), 10);
     }
 
     private static void sittingsBeyond() {
-        DUE.within("sittings(v)", 1, 60, Due::furnished, ChairViews::sittings);
-        DUE.beyond("sittings(v), ahead of STATE", () -> Due.late(9999), ChairViews::sittings,
-            0, 61, -1, Integer.MIN_VALUE, Integer.MAX_VALUE);
+        holdsBeyond(ChairViews::sittings, 60);
     }
 
     private static void sittingsState() {
-        DUE.refuses("1 behind 9999", () -> Due.late(9999), x -> x.sittings(1), Due.STATE);
-        DUE.refuses("2 behind 9998", () -> Due.late(9998), x -> x.sittings(2), Due.STATE);
-        DUE.refuses("60 behind 9940", () -> Due.late(9940), x -> x.sittings(60), Due.STATE);
-        ChairViews x = Due.late(9939);
-        DUE.is("60 behind 9939", x.sittings(60), 1);
-        DUE.is("SITTING", x.count(2), 9999);
-        x = Due.late(9998);
-        DUE.is("1 behind 9998", x.sittings(1), 1);
-        DUE.is("SITTING", x.count(2), 9999);
+        holdsUpTo9999(ChairViews::sittings, 60);
     }
 
     private static void loose() {
-        ChairViews x = Due.seated(Due.withChairs(0, 5), 0);
-        DUE.is("loose(1)", x.loose(1), 5);
-        DUE.is("SITTING", x.count(2), 1);
-        DUE.is("loose(40)", x.loose(40), 5);
-        DUE.is("SITTING", x.count(2), 41);
-        DUE.is("LAWS", x.count(3), 5);
-        ChairViews last = Due.seated(Due.withChairs(0, 1), 0);
-        Due.textOf(last, 0, "s=39");
-        DUE.is("the LAWS of the 40th", last.loose(40), 1);
-        DUE.is("the LAWS of the 41st", last.loose(1), 0);
+        holds(ChairViews::loose, 40);
     }
 
     private static void looseBeyond() {
-        DUE.within("loose(v)", 1, 40, Due::furnished, ChairViews::loose);
-        DUE.beyond("loose(v), ahead of STATE", () -> Due.late(9999), ChairViews::loose,
-            0, 41, -1, Integer.MIN_VALUE, Integer.MAX_VALUE);
-        DUE.is("41 SITTINGS without draws", Due.furnished().sittings(41) == BEYOND ? 1 : 0, 0);
+        holdsBeyond(ChairViews::loose, 40);
     }
 
     private static void looseState() {
-        DUE.refuses("1 behind 9999", () -> Due.late(9999), x -> x.loose(1), Due.STATE);
-        DUE.refuses("2 behind 9998", () -> Due.late(9998), x -> x.loose(2), Due.STATE);
-        DUE.refuses("40 behind 9960", () -> Due.late(9960), x -> x.loose(40), Due.STATE);
-        ChairViews x = Due.late(9959);
-        DUE.is("40 behind 9959", x.loose(40), 1);
-        DUE.is("SITTING", x.count(2), 9999);
+        holdsUpTo9999(ChairViews::loose, 40);
     }
 
     public static void main(String[] args) {
