@@ -418,6 +418,8 @@ public final class SheetEdgesTest {
         DUE.is("40 for 6", Due.full().judge(0), 0);
         DUE.is("3 for 2, CHAIRS being 3", unlikeHouse(2, 3, -1, -1, -1).judge(0), 2);
         DUE.is("3 for 4, CHAIRS being 3", unlikeHouse(4, 3, -1, -1, -1).judge(0), 3);
+        DUE.is("the last of 4, CHAIRS being 1", unlikeHouse(4, 1, -1, -1, -1, 0).judge(0), 3);
+        DUE.is("5 for 4, CHAIRS being 1", unlikeHouse(4, 1, -1, -1, -1, -1, -1).judge(0), 4);
         ChairViews nobody = new ChairViews();
         nobody.sheet(0, 8, 1);
         DUE.is("one for nobody", nobody.judge(0), 0);
